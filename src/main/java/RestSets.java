@@ -176,7 +176,7 @@ public final class RestSets {
         }
         sorter.begin(machine);
         int verdict = Sorter.SPLIT;
-        // Each split finds one kind more, so there are fewer splits than kinds.
+        // Each split adds a kind to at least one, so the last round sorts or refuses.
         for (int round = 0; round < MAX_RESTS && verdict == Sorter.SPLIT; round++) {
             verdict = sorter.scan();
         }
@@ -545,12 +545,12 @@ public final class RestSets {
                 numberOf[kind] = kinds;
             }
             int numbered = 1;
+            int ends = 0;
             numberOf[0] = 0;
             kindAt[0] = 0;
-            table.ends = 0;
             for (int rest = 0; rest < numbered && rest < kinds; rest++) {
                 int index = example[kindAt[rest]];
-                table.ends |= (answers[index] & 1) << rest;
+                ends |= (answers[index] & 1) << rest;
                 for (int letter = 0; letter < LETTERS; letter++) {
                     int kind = kindWith(answers[follow(index, letter)]);
                     if (numberOf[kind] == kinds) {
@@ -562,6 +562,7 @@ public final class RestSets {
                 }
             }
             table.restCount = kinds;
+            table.ends = ends;
             table.measure();
         }
 
