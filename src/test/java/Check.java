@@ -8,13 +8,19 @@ final class Check {
         Object run();
     }
 
+    private String about = "";
     private int wrong;
+
+    /** The sentence of the document that the checks from here on hold the class to. */
+    void about(String sentence) {
+        about = "\"" + sentence + "\": ";
+    }
 
     void due(String what, Object want, Call call) {
         Object got = answer(call);
         if (!got.toString().equals(want.toString())) {
             wrong++;
-            System.out.println(what + " answered " + got + ", due is " + want);
+            System.out.println(about + what + " answered " + got + ", due is " + want);
         }
     }
 

@@ -7,12 +7,17 @@ import java.util.TreeSet;
 
 /** The class shows the document's face and nothing more. */
 public final class FaceTest {
+    private static final String BAD = " throws IllegalArgumentException";
+    private static final String BAD_OR_FULL = BAD + ",IndexOutOfBoundsException";
+    private static final String BAD_OR_MISSING = BAD + ",NoSuchElementException";
     private static final String[] FACE = {
-        "int letters(int)", "int empty()", "int then(int,int)", "int both(int,int,int)",
-        "int many(int)", "int contrary(int)", "int back(int)", "int rest(int,int)",
-        "int beginnings(int)", "boolean has(int,int,long)", "boolean same(int,int)",
-        "boolean inside(int,int)", "int rests(int)", "long words(int,int)", "int shortest(int)",
-        "int letter(int,int)", "int size(int)", "int count()"};
+        "int letters(int)" + BAD_OR_FULL, "int empty() throws IndexOutOfBoundsException",
+        "int then(int,int)" + BAD_OR_FULL, "int both(int,int,int)" + BAD_OR_FULL,
+        "int many(int)" + BAD_OR_FULL, "int contrary(int)" + BAD_OR_FULL, "int back(int)" + BAD_OR_FULL,
+        "int rest(int,int)" + BAD_OR_FULL, "int beginnings(int)" + BAD_OR_FULL,
+        "boolean has(int,int,long)" + BAD, "boolean same(int,int)" + BAD, "boolean inside(int,int)" + BAD,
+        "int rests(int)" + BAD, "long words(int,int)" + BAD, "int shortest(int)" + BAD_OR_MISSING,
+        "int letter(int,int)" + BAD_OR_MISSING, "int size(int)" + BAD, "int count()"};
 
     public static void main(String[] args) {
         Check check = new Check();
@@ -36,7 +41,7 @@ public final class FaceTest {
         Set<String> shown = new TreeSet<>();
         for (Method method : face.getDeclaredMethods()) {
             if (!Modifier.isPrivate(method.getModifiers()) && !method.isSynthetic()) {
-                String text = method.toGenericString().replaceAll(" throws .*", "");
+                String text = method.toGenericString().replaceAll("java\\.(lang|util)\\.", "");
                 shown.add(text.replace("public ", "").replace("RestSets.", ""));
             }
         }

@@ -42,7 +42,7 @@ public final class ModelTest {
 
     /** Mostly one of the sets there are, the newer ones more often; seldom none of them. */
     private int anySet() {
-        int sets = x.count();
+        int sets = m.count();
         int chance = below(60);
         if (sets == 0 || chance == 0) {
             return new int[] {-1, sets, sets + 1, 80, Integer.MIN_VALUE, Integer.MAX_VALUE}[below(6)];
@@ -61,7 +61,7 @@ public final class ModelTest {
         int n = nearly(4);
         int bits = nearly(8);
         int letter = nearly(3);
-        switch (x.count() < 3 ? below(3) : below(24)) {
+        switch (m.count() < 3 ? below(3) : below(24)) {
             case 0, 1 -> due("letters " + bits, () -> x.letters(bits), () -> m.letters(bits));
             case 2 -> due("empty", () -> x.empty(), () -> m.empty());
             case 3, 4, 5, 6, 7, 8 -> due("then " + p + " " + q, () -> x.then(p, q), () -> m.then(p, q));

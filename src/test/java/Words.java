@@ -1,4 +1,4 @@
-/** Words written as texts of the digits 0 .. 2. */
+/** Words written as texts of the digits 0 .. 2, and sets made of them. */
 final class Words {
     private Words() {
     }
@@ -31,6 +31,21 @@ final class Words {
             p = sets.both(0, p, one(sets, word));
         }
         return p;
+    }
+
+    /** Makes the set of all rows of the letters that bits tell, of the given lengths, which rise. */
+    static int rows(RestSets sets, int bits, int... lengths) {
+        int letter = sets.letters(bits);
+        int found = sets.letters(0);
+        int row = sets.empty();
+        int reached = 0;
+        for (int length : lengths) {
+            for (; reached < length; reached++) {
+                row = sets.then(row, letter);
+            }
+            found = sets.both(0, found, row);
+        }
+        return found;
     }
 
     /** All words of up to three letters that are in a set, shorter ones first; the empty one is -. */
